@@ -25,7 +25,7 @@ public final class FlaringWords {
     private static final int DRAW_DIVISOR = 65536;
 
     private final News news = new News();
-    private final Findings findings = new Findings(news);
+    private final Findings findings = new Findings();
     private final Text text = new Text();
     private final Deeds deeds = new Deeds();
     private final Book book = new Book();
@@ -134,7 +134,7 @@ public final class FlaringWords {
         if (!isWord(w)) {
             return UNKNOWN;
         }
-        return news.hasLevel(l) ? found().levels.costOfSteady(w, l) : OUTSIDE;
+        return news.hasLevel(l) ? found().tally.costOfSteady(w, l) : OUTSIDE;
     }
 
     public int flare(int f, int what) {
@@ -327,10 +327,10 @@ public final class FlaringWords {
     /** Each finding rests on those above it, so the order counts. */
     private Findings found() {
         if (stale) {
-            findings.tally.countAll();
-            findings.levels.findAll();
-            findings.flares.findAll();
-            findings.stories.findAll();
+            findings.tally.countAll(news);
+            findings.levels.findAll(findings.tally);
+            findings.flares.findAll(findings.tally, findings.levels);
+            findings.stories.findAll(news, findings.flares);
             stale = false;
         }
         return findings;
@@ -723,17 +723,10 @@ public final class FlaringWords {
 
     /** All that follows from the news, found anew only when they have changed. */
     private static final class Findings {
-        final Tally tally;
-        final Levels levels;
-        final Flares flares;
-        final Stories stories;
-
-        Findings(News news) {
-            tally = new Tally(news);
-            levels = new Levels(news, tally);
-            flares = new Flares(news, tally, levels);
-            stories = new Stories(news, flares);
-        }
+        final Tally tally = new Tally();
+        final Levels levels = new Levels();
+        final Flares flares = new Flares();
+        final Stories stories = new Stories();
 
         int hot(int d) {
             int set = 0;
@@ -765,25 +758,30 @@ public final class FlaringWords {
 
     /** ALL and COUNT of each DAY, and how unlikely they are by the LEVELS. */
     private static final class Tally {
-        private final News news;
         private final int[] allOnDay = new int[MOST_DAYS];
         private final int[][] counts = new int[WORDS][MOST_DAYS];
         private final int[][] usual = new int[WORDS][MOST_DAYS];
+        private int dayCount = 0;
+        private int highest = 0;
+        private int base = 0;
+        private int step = 0;
+        private int rise = 0;
 
-        Tally(News news) {
-            this.news = news;
-        }
-
-        void countAll() {
+        void countAll(News news) {
+            dayCount = news.dayCount();
+            highest = news.levels();
+            base = news.base();
+            step = news.step();
+            rise = news.rise();
             for (int d = 0; d < MOST_DAYS; d++) {
                 allOnDay[d] = news.countWithOn(0, d);
             }
             for (int w = 0; w < WORDS; w++) {
-                countWord(w);
+                countWord(news, w);
             }
         }
 
-        private void countWord(int w) {
+        private void countWord(News news, int w) {
             int pieceCount = news.count();
             int having = news.countWith(setOfWord(w));
             for (int d = 0; d < MOST_DAYS; d++) {
@@ -796,6 +794,14 @@ public final class FlaringWords {
             return d >= 0 && d < MOST_DAYS;
         }
 
+        int dayCount() {
+            return dayCount;
+        }
+
+        int highest() {
+            return highest;
+        }
+
         int all(int d) {
             return isDay(d) ? allOnDay[d] : 0;
         }
@@ -805,32 +811,37 @@ public final class FlaringWords {
         }
 
         int wanted(int w, int d, int l) {
-            return isWord(w) && isDay(d) ? usual[w][d] + l * news.step() : 0;
+            return isWord(w) && isDay(d) ? usual[w][d] + l * step : 0;
         }
 
         int unlikely(int w, int d, int l) {
-            return news.base() * Math.abs(count(w, d) - wanted(w, d, l));
+            return base * Math.abs(count(w, d) - wanted(w, d, l));
+        }
+
+        int costOfRise(int from, int to) {
+            return to > from ? rise * (to - from) : 0;
+        }
+
+        int costOfSteady(int w, int l) {
+            int sum = costOfRise(0, l);
+            for (int d = 0; d < dayCount; d++) {
+                sum += unlikely(w, d, l);
+            }
+            return sum;
         }
     }
 
     /** LEVELS of all WORDS, and what they cost. */
     private static final class Levels {
-        private final News news;
-        private final Tally tally;
         private final int[][] found = new int[WORDS][MOST_DAYS];
         private final int[] costs = new int[WORDS];
         private final int[][] rest = new int[MOST_DAYS][MOST_LEVELS + 1];
 
-        Levels(News news, Tally tally) {
-            this.news = news;
-            this.tally = tally;
-        }
-
-        void findAll() {
+        void findAll(Tally tally) {
             for (int w = 0; w < WORDS; w++) {
-                costRests(w);
-                costs[w] = costFrom(0, 0, leastFrom(0, 0));
-                walk(w);
+                costRests(tally, w);
+                costs[w] = costFrom(tally, 0, 0, leastFrom(tally, 0, 0));
+                walk(tally, w);
             }
         }
 
@@ -842,52 +853,42 @@ public final class FlaringWords {
             return isWord(w) ? costs[w] : 0;
         }
 
-        int costOfSteady(int w, int l) {
-            int sum = l * news.rise();
-            for (int d = 0; d < news.dayCount(); d++) {
-                sum += tally.unlikely(w, d, l);
-            }
-            return sum;
-        }
-
         /**
          * From the last DAY back: what each LEVEL costs with the best of all later DAYS. So the walk from DAY 0 on
          * can take the least LEVEL of like ones each DAY, which is the order that the document asks for.
          */
-        private void costRests(int w) {
-            int last = news.dayCount() - 1;
+        private void costRests(Tally tally, int w) {
+            int last = tally.dayCount() - 1;
             for (int d = last; d >= 0; d--) {
-                for (int l = 0; l <= news.levels(); l++) {
-                    int later = d == last ? 0 : costFrom(d + 1, l, leastFrom(d + 1, l));
+                for (int l = 0; l <= tally.highest(); l++) {
+                    int later = d == last ? 0 : costFrom(tally, d + 1, l, leastFrom(tally, d + 1, l));
                     rest[d][l] = tally.unlikely(w, d, l) + later;
                 }
             }
         }
 
-        private void walk(int w) {
+        private void walk(Tally tally, int w) {
             int l = 0;
-            for (int d = 0; d < news.dayCount(); d++) {
-                l = leastFrom(d, l);
+            for (int d = 0; d < tally.dayCount(); d++) {
+                l = leastFrom(tally, d, l);
                 found[w][d] = l;
             }
         }
 
         /** The LEVEL of a DAY from which all costs least, the least of like ones, behind the LEVEL before. */
-        private int leastFrom(int d, int before) {
+        private int leastFrom(Tally tally, int d, int before) {
             int best = 0;
-            for (int l = 1; l <= news.levels(); l++) {
-                if (costFrom(d, before, l) < costFrom(d, before, best)) {
+            for (int l = 1; l <= tally.highest(); l++) {
+                if (costFrom(tally, d, before, l) < costFrom(tally, d, before, best)) {
                     best = l;
                 }
             }
             return best;
         }
 
-        private int costFrom(int d, int before, int l) {
-            if (!Tally.isDay(d) || l < 0 || l > MOST_LEVELS) {
-                return 0;
-            }
-            return rest[d][l] + news.rise() * Math.max(0, l - before);
+        private int costFrom(Tally tally, int d, int before, int l) {
+            boolean known = Tally.isDay(d) && l >= 0 && l <= MOST_LEVELS;
+            return known ? rest[d][l] + tally.costOfRise(before, l) : 0;
         }
     }
 
@@ -901,17 +902,8 @@ public final class FlaringWords {
 
         private static final int WEIGHT_ADDED = 1000;
 
-        private final News news;
-        private final Tally tally;
-        private final Levels levels;
         private final int[][] facts = new int[FACTS][MOST_FLARES];
         private int number = 0;
-
-        Flares(News news, Tally tally, Levels levels) {
-            this.news = news;
-            this.tally = tally;
-            this.levels = levels;
-        }
 
         int number() {
             return number;
@@ -923,6 +915,14 @@ public final class FlaringWords {
 
         boolean hasDay(int f, int d) {
             return has(f) && facts[FIRST][f] <= d && d <= facts[LAST][f];
+        }
+
+        boolean isAtOne(int f) {
+            return has(f) && facts[LEVEL][f] == 1;
+        }
+
+        int setOf(int f) {
+            return has(f) ? setOfWord(facts[WORD][f]) : 0;
         }
 
         static boolean isFact(int what) {
@@ -939,25 +939,24 @@ public final class FlaringWords {
             }
         }
 
-        void findAll() {
+        void findAll(Tally tally, Levels levels) {
             number = 0;
             for (int w = 0; w < WORDS; w++) {
-                for (int l = 1; l <= news.levels(); l++) {
-                    findAt(w, l);
+                for (int l = 1; l <= tally.highest(); l++) {
+                    findAt(levels, w, l, tally.dayCount());
                 }
             }
             for (int f = 0; f < number; f++) {
                 facts[WITHIN][f] = around(f);
-                facts[WEIGHT][f] = weightOf(f) + WEIGHT_ADDED;
-                facts[PEAK][f] = peakOf(f);
-                facts[FADE][f] = fadeOf(f);
+                facts[WEIGHT][f] = weightOf(tally, f) + WEIGHT_ADDED;
+                facts[PEAK][f] = peakOf(tally, f);
+                facts[FADE][f] = fadeOf(tally, f);
                 facts[STORY][f] = NONE;
             }
         }
 
-        private void findAt(int w, int l) {
+        private void findAt(Levels levels, int w, int l, int dayCount) {
             int first = NONE;
-            int dayCount = news.dayCount();
             for (int d = 0; d <= dayCount; d++) {
                 boolean reached = d < dayCount && levels.of(w, d) >= l;
                 if (reached && first == NONE) {
@@ -990,7 +989,7 @@ public final class FlaringWords {
             return NONE;
         }
 
-        private int weightOf(int f) {
+        private int weightOf(Tally tally, int f) {
             int w = facts[WORD][f];
             int l = facts[LEVEL][f];
             int sum = 0;
@@ -1000,7 +999,7 @@ public final class FlaringWords {
             return sum;
         }
 
-        private int peakOf(int f) {
+        private int peakOf(Tally tally, int f) {
             int w = facts[WORD][f];
             int peak = facts[FIRST][f];
             for (int d = peak + 1; d <= facts[LAST][f]; d++) {
@@ -1011,7 +1010,7 @@ public final class FlaringWords {
             return peak;
         }
 
-        private int fadeOf(int f) {
+        private int fadeOf(Tally tally, int f) {
             int w = facts[WORD][f];
             return tally.count(w, facts[PEAK][f]) - tally.count(w, facts[LAST][f]);
         }
@@ -1022,16 +1021,9 @@ public final class FlaringWords {
         private static final int SIZE = 0, SET = 1, FIRST = 2, LAST = 3, FACTS = 4;
         private static final int MOST_STORIES = WORDS * (MOST_DAYS / 2);
 
-        private final News news;
-        private final Flares flares;
         private final int[] heaps = new int[Flares.MOST_FLARES];
         private final int[][] facts = new int[FACTS][MOST_STORIES];
         private int number = 0;
-
-        Stories(News news, Flares flares) {
-            this.news = news;
-            this.flares = flares;
-        }
 
         int number() {
             return number;
@@ -1049,35 +1041,32 @@ public final class FlaringWords {
             return has(s) && isFact(what) ? facts[what][s] : NONE;
         }
 
-        void findAll() {
+        void findAll(News news, Flares flares) {
             for (int f = 0; f < flares.number(); f++) {
-                heaps[f] = isAtOne(f) ? f : NONE;
+                heaps[f] = flares.isAtOne(f) ? f : NONE;
             }
             for (int k = 0; k < news.count(); k++) {
-                tieBy(news.dayOf(k), news.setOf(k));
+                tieBy(flares, news.dayOf(k), news.setOf(k));
             }
-            numberHeaps();
-        }
-
-        private boolean isAtOne(int f) {
-            return flares.fact(f, Flares.LEVEL) == 1;
+            numberHeaps(flares);
         }
 
         /** One PIECE ties all FLARES at 1 that have its DAY and one of its WORDS: a WORD has but one such on a DAY. */
-        private void tieBy(int d, int set) {
+        private void tieBy(Flares flares, int d, int set) {
             int tied = NONE;
             for (int f = 0; f < flares.number(); f++) {
-                if (isAtOne(f) && flares.hasDay(f, d) && (set & setOfWord(flares.fact(f, Flares.WORD))) != 0) {
-                    tied = tied == NONE ? heaps[f] : joined(tied, heaps[f]);
+                boolean ties = flares.isAtOne(f) && flares.hasDay(f, d) && (set & flares.setOf(f)) != 0;
+                if (ties) {
+                    tied = tied == NONE ? heaps[f] : joined(tied, heaps[f], flares.number());
                 }
             }
         }
 
         /** A heap goes by its first FLARE, so of two the lower number stays. */
-        private int joined(int heap, int other) {
+        private int joined(int heap, int other, int flareCount) {
             int stays = Math.min(heap, other);
             int goes = Math.max(heap, other);
-            for (int f = 0; f < flares.number(); f++) {
+            for (int f = 0; f < flareCount; f++) {
                 if (heaps[f] == goes) {
                     heaps[f] = stays;
                 }
@@ -1085,18 +1074,18 @@ public final class FlaringWords {
             return stays;
         }
 
-        private void numberHeaps() {
+        private void numberHeaps(Flares flares) {
             number = 0;
             for (int f = 0; f < flares.number(); f++) {
-                if (isAtOne(f)) {
-                    int s = heaps[f] == f ? begun(f) : flares.fact(heaps[f], Flares.STORY);
+                if (flares.isAtOne(f)) {
+                    int s = heaps[f] == f ? begun(flares, f) : flares.fact(heaps[f], Flares.STORY);
                     flares.putStory(f, s);
-                    grow(s, f);
+                    grow(s, flares, f);
                 }
             }
         }
 
-        private int begun(int f) {
+        private int begun(Flares flares, int f) {
             if (number >= MOST_STORIES) {
                 return NONE;
             }
@@ -1108,12 +1097,12 @@ public final class FlaringWords {
             return number - 1;
         }
 
-        private void grow(int s, int f) {
+        private void grow(int s, Flares flares, int f) {
             if (!has(s)) {
                 return;
             }
             facts[SIZE][s]++;
-            facts[SET][s] |= setOfWord(flares.fact(f, Flares.WORD));
+            facts[SET][s] |= flares.setOf(f);
             facts[FIRST][s] = Math.min(facts[FIRST][s], flares.fact(f, Flares.FIRST));
             facts[LAST][s] = Math.max(facts[LAST][s], flares.fact(f, Flares.LAST));
         }

@@ -12,7 +12,8 @@ final class FaceTest {
             "feed 1", "pieces 0", "fault 0", "told 1", "at 2", "day 2", "word 3", "cost 1", "steady 2", "flare 2",
             "story 2", "together 2", "piece 2", "take 1", "move 2", "days 1", "term 2", "drift 1", "undo 1", "write 3",
             "tear 0", "seed 1", "keep 1", "goBack 1"));
-    private static final Set<String> CONSTANTS = new TreeSet<>(Arrays.asList("NONE", "UNKNOWN", "OUTSIDE", "NOT", "FULL"));
+    private static final Set<String> CONSTANTS = new TreeSet<>(
+            Arrays.asList("NONE", "UNKNOWN", "OUTSIDE", "NOT", "FULL"));
 
     private static final Checks CHECKS = new Checks("FaceTest");
 
@@ -85,7 +86,8 @@ final class FaceTest {
             boolean fixed = Modifier.isStatic(field.getModifiers());
             boolean constant = of == FlaringWords.class && CONSTANTS.contains(field.getName());
             CHECKS.holds(field + " is final if static", !fixed || Modifier.isFinal(field.getModifiers()));
-            CHECKS.holds(field + " is public if the document has it", constant == Modifier.isPublic(field.getModifiers()));
+            CHECKS.holds(field + " is public if the document has it",
+                    constant == Modifier.isPublic(field.getModifiers()));
             if (of == FlaringWords.class && !constant) {
                 CHECKS.holds(field + " is private", Modifier.isPrivate(field.getModifiers()));
             }

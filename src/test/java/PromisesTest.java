@@ -30,6 +30,8 @@ final class PromisesTest {
         promise9OfRising();
         promise10();
         promise11();
+        promise11PeakAtLast();
+        promise11DaysGone();
         promise11Story();
         promise12();
         promise13();
@@ -466,6 +468,79 @@ final class PromisesTest {
         x.term(3, 0);
         due("told(2)", 1, x.told(FLARES));
         tells(x, "flare", 0, 0, 1, 1, 1, NONE, 1002, 1, 0, 0);
+        manyFlares();
+    }
+
+    /** Pieces with all words on days 1, 3 and on to 11; the others of the 40, without words, on day 0. */
+    private static FlaringWords everyOtherDay(int onDay1, int onOtherDays) {
+        FlaringWords x = new FlaringWords();
+        x.days(12);
+        for (int d = 1; d < 12; d += 2) {
+            for (int n = d == 1 ? onDay1 : onOtherDays; n > 0; n--) {
+                x.piece(d, 255);
+            }
+        }
+        while (x.piece(0, 0) != FULL) {
+            continue;
+        }
+        x.term(0, 3);
+        x.term(2, 1);
+        x.term(3, 0);
+        return x;
+    }
+
+    /**
+     * 4 pieces on day 1 and 3 on each of five other days have all words: WANTED at 0 is 4 * 19 / 40 and 3 * 19 / 40,
+     * 1 on all of them, so that the levels are 3 on day 1 and 2 on the others.
+     */
+    private void manyFlares() {
+        FlaringWords x = everyOtherDay(4, 3);
+        due("told(2)", 8 * (6 + 6 + 1), x.told(FLARES));
+        due("told(3)", 6, x.told(STORIES));
+        for (int w = 0; w < 8; w++) {
+            levels(x, w, 0, 3, 0, 2, 0, 2, 0, 2, 0, 2, 0, 2);
+            int own = 13 * w;
+            tells(x, "flare", own, w, 1, 1, 1, NONE, 1002, 1, 0, 0);
+            tells(x, "flare", own + 5, w, 1, 11, 11, NONE, 1002, 11, 0, 5);
+            tells(x, "flare", own + 6, w, 2, 1, 1, own, 1002, 1, 0, NONE);
+            tells(x, "flare", own + 11, w, 2, 11, 11, own + 5, 1002, 11, 0, NONE);
+            tells(x, "flare", own + 12, w, 3, 1, 1, own + 6, 1002, 1, 0, NONE);
+        }
+        for (int s = 0; s < 6; s++) {
+            tells(x, "story", s, 8, 255, 1 + 2 * s, 1 + 2 * s);
+        }
+        due("flare(104, 0)", UNKNOWN, x.flare(104, 0));
+    }
+
+    /** 'a' once on day 0 and twice on day 1, 3 of 40 pieces: WANTED at 0 is 0 on both. */
+    private void promise11PeakAtLast() {
+        promise = 11;
+        FlaringWords x = told("0:a;1:a;1:a;");
+        while (x.piece(3, 0) != FULL) {
+            continue;
+        }
+        x.term(2, 1);
+        x.term(3, 0);
+        levels(x, 0, 1, 2, 0, 0);
+        tells(x, "flare", 0, 0, 1, 0, 1, NONE, 1004, 1, 0, 0);
+    }
+
+    /** A level found for a day that there is no more counts for nothing. */
+    private void promise11DaysGone() {
+        promise = 11;
+        FlaringWords x = told("0:;5:a;");
+        x.term(2, 1);
+        x.term(3, 0);
+        due("told(2)", 1, x.told(FLARES));
+        x.take(1);
+        x.days(5);
+        due("told(2)", 0, x.told(FLARES));
+        due("word(0, 5, 1)", UNKNOWN, x.word(0, 5, 1));
+        x.undo(2);
+        x.move(1, 4);
+        due("flare(0, 3)", 4, x.flare(0, 3));
+        x.days(5);
+        due("flare(0, 3)", 4, x.flare(0, 3));
     }
 
     /** Two separate flares of one word are never tied by themselves, but another word's can tie both. */
@@ -518,6 +593,52 @@ final class PromisesTest {
         x.move(2, 0);
         due("told(3), tied", 1, x.told(STORIES));
         due("story(0, 0), those at 1 alone", 2, x.story(0, 0));
+        manyStories();
+        heapsJoinedLate();
+    }
+
+    /** Six words on each of six days, each in a piece of its own, 6 of 40: WANTED at 0 is 6 * 6 / 40, 0. */
+    private void manyStories() {
+        FlaringWords x = new FlaringWords();
+        x.days(12);
+        x.term(2, 1);
+        x.term(3, 0);
+        for (int d = 1; d < 12; d += 2) {
+            for (int w = 0; w < 6; w++) {
+                x.piece(d, 1 << w);
+            }
+        }
+        for (int k = 36; k < 40; k++) {
+            x.piece(0, 0);
+        }
+        due("told(2)", 36, x.told(FLARES));
+        due("told(3)", 36, x.told(STORIES));
+        for (int s = 0; s < 36; s++) {
+            tells(x, "story", s, 1, 1 << s / 6, 1 + s % 6 * 2, 1 + s % 6 * 2);
+            due("flare(s, 8)", s, x.flare(s, 8));
+        }
+        due("story(36, 0)", UNKNOWN, x.story(36, 0));
+    }
+
+    /** 'a' with 'b' and 'c' with 'd' first, then 'b' with 'd': all one heap; 'e' alone is another. */
+    private void heapsJoinedLate() {
+        FlaringWords x = told("1:cd;1:ab;1:e;");
+        while (x.piece(0, 0) != FULL) {
+            continue;
+        }
+        x.term(2, 1);
+        x.term(3, 0);
+        due("told(3)", 3, x.told(STORIES));
+        tells(x, "story", 0, 2, 3, 1, 1);
+        tells(x, "story", 1, 2, 12, 1, 1);
+        tells(x, "story", 2, 1, 16, 1, 1);
+        x.take(39);
+        x.piece(1, 10);
+        due("told(3)", 2, x.told(STORIES));
+        tells(x, "story", 0, 4, 15, 1, 1);
+        tells(x, "story", 1, 1, 16, 1, 1);
+        due("flare(2, 8), 'b' at 2", NONE, x.flare(2, 8));
+        due("flare(3, 8), 'c'", 0, x.flare(3, 8));
     }
 
     private void promise13() {
@@ -872,7 +993,9 @@ final class PromisesTest {
         due("told(4)", 3, x.told(4));
         holdsPieces(x, 0, 1, 3, 2);
         x.move(0, 4);
+        due("day(4, 0)", 1, x.day(4, 0));
         due("goBack(1), once more", 1, x.goBack(1));
+        due("day(4, 0)", 0, x.day(4, 0));
         holdsPieces(x, 0, 1, 3, 2);
         due("undo(1)", NOT, x.undo(1));
     }
