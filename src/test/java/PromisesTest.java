@@ -497,8 +497,9 @@ final class PromisesTest {
         FlaringWords x = everyOtherDay(4, 3);
         due("told(2)", 8 * (6 + 6 + 1), x.told(FLARES));
         due("told(3)", 6, x.told(STORIES));
+        FlaringWords y = everyOtherDay(4, 3);
         for (int w = 0; w < 8; w++) {
-            levels(x, w, 0, 3, 0, 2, 0, 2, 0, 2, 0, 2, 0, 2);
+            levels(y, w, 0, 3, 0, 2, 0, 2, 0, 2, 0, 2, 0, 2);
             int own = 13 * w;
             tells(x, "flare", own, w, 1, 1, 1, NONE, 1002, 1, 0, 0);
             tells(x, "flare", own + 5, w, 1, 11, 11, NONE, 1002, 11, 0, 5);
