@@ -4,7 +4,7 @@ import java.nio.file.Path;
 import java.util.List;
 import java.util.regex.Pattern;
 
-/** What of LANGUAGE.md can be seen in the program's text: words and signs that it rules out, long methods. */
+/** What of LANGUAGE.md can be seen in the program's text: words and signs that it rules out. */
 final class LanguageTest {
     private static final Path PROGRAM = Path.of("src/main/java/FlaringWords.java");
     private static final List<String> RULED_OUT = List.of("\\bthrow\\b", "\\bthrows\\b", "\\btry\\b", "\\bcatch\\b",
@@ -12,7 +12,6 @@ final class LanguageTest {
             "\\bObject\\b", "\\bException\\b", "Exact\\b", "\\bhashCode\\b", "\\btoString\\b", "\\bequals\\b",
             "\\bThread\\b", "\\bSystem\\.(?!arraycopy\\b)", "\\bnative\\b", "\\bvolatile\\b", "\\btransient\\b",
             "\\[\\]\\[\\]\\[\\]", "\\bwhile \\(true\\)", "for \\(;;\\)", "@", "\\bstatic \\{");
-    private static final int LONGEST_METHOD = 60;
 
     private static final Checks CHECKS = new Checks("LanguageTest");
 
@@ -23,27 +22,6 @@ final class LanguageTest {
         for (String word : RULED_OUT) {
             CHECKS.holds("no " + word, !Pattern.compile(word).matcher(code).find());
         }
-        methodsAreShort(code);
         CHECKS.end();
-    }
-
-    private static void methodsAreShort(String code) {
-        Pattern head = Pattern.compile(" {4}| {8}");
-        String method = null;
-        String end = null;
-        int began = 0;
-        String[] lines = code.split("\n");
-        for (int i = 0; i < lines.length; i++) {
-            String line = lines[i];
-            String indent = line.substring(0, line.length() - line.stripLeading().length());
-            if (method == null && head.matcher(indent).matches() && line.matches(".*\\) \\{$")) {
-                method = line.strip();
-                end = indent + "}";
-                began = i;
-            } else if (method != null && line.equals(end)) {
-                CHECKS.holds(method + " is short", i - began <= LONGEST_METHOD);
-                method = null;
-            }
-        }
     }
 }
